@@ -6,6 +6,9 @@ public final class AllTests {
     public static void main(String[] args) {
         TellingTests.runAll();
         TextTests.runAll();
+        SecondTests.runAll();
+        TrialTests.runAll();
+        TableTests.runAll();
         System.out.println(Check.passed + " passed, " + Check.failed + " failed");
         if (Check.failed != 0) {
             System.exit(1);
