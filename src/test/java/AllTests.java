@@ -9,6 +9,7 @@ public final class AllTests {
         SecondTests.runAll();
         TrialTests.runAll();
         TableTests.runAll();
+        ModelTests.runAll();
         System.out.println(Check.passed + " passed, " + Check.failed + " failed");
         if (Check.failed != 0) {
             System.exit(1);
