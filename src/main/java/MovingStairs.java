@@ -39,7 +39,7 @@ public final class MovingStairs {
     }
 
     public int hall(int room) {
-        if (!within(room, 1, 999) || now.hallCount >= MOST_HALLS) {
+        if (!within(room, 1, 999) || !within(now.hallCount, 0, MOST_HALLS - 1)) {
             return NONE;
         }
         now.halls[now.hallCount].build(room);
@@ -56,12 +56,12 @@ public final class MovingStairs {
     }
 
     public int link(int kind, int low, int high, int size, int cycle) {
-        if (!now.hasHall(low) || !now.hasHall(high) || low == high || now.linkCount >= MOST_LINKS) {
+        if (!now.hasHall(low) || !now.hasHall(high) || low == high) {
             return NONE;
         }
         boolean stepped = (kind == STAIR || kind == FIXED) && within(size, 2, MOST_STEPS);
         boolean lifting = kind == LIFT && within(size, 1, 20) && within(cycle, 2, 99);
-        if (!stepped && !lifting) {
+        if (!stepped && !lifting || !within(now.linkCount, 0, MOST_LINKS - 1)) {
             return NONE;
         }
         now.links[now.linkCount].build(kind, low, high, size, cycle);
@@ -96,7 +96,7 @@ public final class MovingStairs {
     public int burst(int second, int every, int hall, int goal, int n, boolean wheels, boolean street) {
         boolean timed = within(second, 0, LAST_SECOND) && within(every, 0, 999);
         boolean placed = now.hasHall(hall) && now.hasHall(goal) && hall != goal;
-        if (!timed || !placed || !within(n, 1, 200) || now.burstCount >= MOST_BURSTS) {
+        if (!timed || !placed || !within(n, 1, 200) || !within(now.burstCount, 0, MOST_BURSTS - 1)) {
             return NONE;
         }
         Burst told = now.bursts[now.burstCount];
@@ -1455,7 +1455,8 @@ public final class MovingStairs {
         }
 
         private boolean pass(int kind) {
-            if (kind() != kind) {
+            boolean there = next >= 0 && next < tokenCount && next < kinds.length;
+            if (!there || kinds[next] != kind) {
                 return fails(CANNOT_STAND);
             }
             next++;

@@ -10,6 +10,8 @@ public final class AllTests {
         TrialTests.runAll();
         TableTests.runAll();
         ModelTests.runAll();
+        WrongTests.runAll();
+        LanguageTests.runAll();
         System.out.println(Check.passed + " passed, " + Check.failed + " failed");
         if (Check.failed != 0) {
             System.exit(1);
