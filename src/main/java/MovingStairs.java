@@ -1454,15 +1454,6 @@ public final class MovingStairs {
             return false;
         }
 
-        private boolean pass(int kind) {
-            boolean there = next >= 0 && next < tokenCount && next < kinds.length;
-            if (!there || kinds[next] != kind) {
-                return fails(CANNOT_STAND);
-            }
-            next++;
-            return true;
-        }
-
         private boolean readClause(Text text) {
             clause = kind() - FIRST_WORD;
             if (clause != Text.WALK && clause != Text.SHUT && clause != Text.BACK) {
@@ -1478,7 +1469,11 @@ public final class MovingStairs {
             text.open(clause);
             boolean good = clause == Text.WALK ? readSum(text, 0) : readEither(text);
             text.close();
-            return good && pass(STOP);
+            if (good && kind() != STOP) {
+                return fails(CANNOT_STAND);
+            }
+            next++;
+            return good;
         }
 
         private boolean readEither(Text text) {
@@ -1568,11 +1563,16 @@ public final class MovingStairs {
                 return fails(TOO_DEEP);
             }
             next++;
-            if (kind == OPEN) {
-                return readSum(text, open + 1) && pass(CLOSE);
+            if (kind == MINUS) {
+                boolean good = readOne(text, open + 1);
+                text.add(NEGATED, 0);
+                return good;
             }
-            boolean good = readOne(text, open + 1);
-            text.add(NEGATED, 0);
+            boolean good = readSum(text, open + 1);
+            if (good && kind() != CLOSE) {
+                return fails(CANNOT_STAND);
+            }
+            next++;
             return good;
         }
     }
