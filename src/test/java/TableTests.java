@@ -21,6 +21,7 @@ final class TableTests {
         int[][] wrong = {{-1, 5}, {6, 5}, {0, -1}, {0, 10000}, {Integer.MIN_VALUE, Integer.MAX_VALUE}};
         for (int[] w : wrong) {
             Check.is("wrong day", x.day(true, w[0], w[1]), -1);
+            Check.is("wrong day", x.day(false, w[0], w[1]), -1);
         }
         Check.is("day", x.day(true, 5, 9999), 1);
         Check.is("day", x.day(false, 0, 0), 2);

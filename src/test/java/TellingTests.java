@@ -266,6 +266,16 @@ final class TellingTests {
         Check.is("side -1", x.step(0, -1, 0), -1);
         Check.is("step of a lift", x.step(1, 0, 0), -1);
         Check.is("step of highest", x.step(HIGHEST, HIGHEST, HIGHEST), -1);
+        x.link(0, 0, 1, 40, 0);
+        x.mode(2, 1);
+        x.turn(0, 0);
+        x.burst(1, 0, 0, 1, 2, false, false);
+        x.run(1);
+        Check.is("left of the longest", x.step(2, 1, 0), 1);
+        Check.is("behind the last of the longest", x.step(2, 0, 40), -1);
+        Check.is("right by the left", x.step(2, 1, -40), -1);
+        Check.is("no side by the right", x.step(2, -1, 40), -1);
+        x.turn(0, 1);
         x.run(2);
         Check.is("last step, right", x.step(0, 0, 2), 1);
         Check.is("last step, left", x.step(0, 1, 2), 1);
@@ -292,6 +302,8 @@ final class TellingTests {
         Check.is("hall 4", x.route(4, 0, true), -1);
         Check.is("goal 4", x.route(0, 4, true), -1);
         Check.is("hall -1", x.route(-1, 0, true), -1);
+        Check.is("goal 8", x.route(0, 8, false), -1);
+        Check.is("goal -4", x.route(1, -4, false), -1);
         x.turn(0, 0);
         Check.is("a stopped one isn't gone by", x.route(0, 2, false), 3);
         x.turn(3, 2);
