@@ -118,6 +118,15 @@ final class TextTests {
         Check.fault("shut count2 > 1;", 1, 10);
         Check.fault("shut walk > 1;", 1, 5);
         Check.fault("walk 1.5;", 1, 6);
+        for (char letter : "azAZmM".toCharArray()) {
+            Check.fault("walk" + letter + " 1;", 1, 0);
+        }
+        for (char other : "@[`{_'\t\r".toCharArray()) {
+            Check.fault("walk" + other + "1;", 1, 4);
+        }
+        Check.fault("walk 0/9;", 0, 0);
+        Check.fault("walk 1:;", 1, 6);
+        Check.fault("walk 1/;", 1, 7);
     }
 
     private static void otherFaults() {
@@ -169,6 +178,14 @@ final class TextTests {
         Check.fault(ten + "walk 1;walk", 4, ten.length() + 7);
         Check.fault(ten + "walk 1;back", 6, ten.length() + 7);
         Check.fault(ten + "walk 1;or", 1, ten.length() + 7);
+        String ones = "1+".repeat(147);
+        Check.fault("walk" + ones + "1;", 0, 0);
+        Check.fault("walk" + ones + "1", 1, 299);
+        Check.fault("walk" + ones + "1+", 1, 300);
+        Check.fault("walk " + ones, 1, 299);
+        Check.fault("walk " + ones + "#", 1, 299);
+        Check.fault(";".repeat(300), 1, 0);
+        Check.fault("walk 1" + " ".repeat(294), 1, 300);
     }
 
     private static void faultAsked() {
@@ -280,6 +297,9 @@ final class TextTests {
         shut("2<1;shut 1<2", true);
         shut("2<1;walk 3;shut 1<2", true);
         shut("2<1;back 2<1", false);
+        shut("2<1;shut ".repeat(9) + "1<2", true);
+        shut("2<1;shut ".repeat(9) + "2<1", false);
+        shut("1+".repeat(143) + "1=144", true);
     }
 
     private static void names() {
