@@ -120,6 +120,16 @@ final class TableTests {
         x.mend(9, 0, 0, 2);
         x.mend(9, 0, 0, 1);
         order(x, 1 + 3, 2, 1, 0);
+        x.back();
+        x.mend(9, 0, 0, 3);
+        x.mend(9, 0, 0, 2);
+        x.image();
+        order(x, 2, 1, 0);
+        x.mend(9, 9, 0, 9);
+        x.mend(9, 9, 0, 9);
+        Check.is("more count", x.order(-1) > 2, true);
+        x.back();
+        order(x, 2, 1, 0);
     }
 
     private static void loads() {
