@@ -9,6 +9,7 @@ public final class AllTests {
         SecondTests.runAll();
         TrialTests.runAll();
         TableTests.runAll();
+        EdgeTests.runAll();
         ModelTests.runAll();
         WrongTests.runAll();
         LanguageTests.runAll();
