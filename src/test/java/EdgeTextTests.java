@@ -534,6 +534,8 @@ final class EdgeTextTests {
         Check.fault("shut " + nots + "not 1<2;", 3, 37);
         Check.fault("shut " + nots + "1<2 and " + nots + "1<2;", 0, 0);
         Check.fault("shut " + nots + "1<2 or not " + nots + "1<2;", 3, 76);
+        Check.fault("shut 1<2 and not " + nots + "1<2;", 3, 45);
+        Check.fault("shut 1<2 and " + nots + "1<2 and " + nots + "1<2;", 0, 0);
         Check.fault("shut " + nots + "-1<2;", 3, 37);
         Check.fault("shut " + nots + "1<-2;", 3, 39);
         Check.fault("shut " + nots + "1-1<2;", 0, 0);

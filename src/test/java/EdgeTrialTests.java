@@ -226,7 +226,10 @@ final class EdgeTrialTests {
         x.image();
         x.link(0, 0, 1, 5, 0);
         Edge.is("from 0 up or down", x.ways(1, 1, 1), 10);
-        x.standing(0, 1);
+        Edge.is("none is off in one", x.standing(0, 1), 0);
+        x.back();
+        x.link(0, 1, 0, 5, 0);
+        Edge.is("two stand, or one stands and two walk", x.standing(0, 6), -1);
         x.back();
         x.link(1, 1, 0, 5, 0);
         Edge.is("from 1 up or down", x.ways(1, 1, 1), 9);
