@@ -19,15 +19,21 @@ final class Check {
         is(what, got ? 1 : 0, due ? 1 : 0);
     }
 
+    /** Twenty bytes of the text from there on, filled up by blanks, as they are fed. */
+    static int[] fours(String text, int at) {
+        int[] fours = new int[5];
+        for (int i = 0; i < 20; i++) {
+            int b = at + i < text.length() ? text.charAt(at + i) : ' ';
+            fours[i / 4] = fours[i / 4] << 8 | b & 255;
+        }
+        return fours;
+    }
+
     /** Feeds a text of up to 300 bytes behind the tape of x, and nothing else. */
     static void tape(MovingStairs x, String text) {
         int before = x.about(9);
         for (int at = 0; at < text.length(); at += 20) {
-            int[] fours = new int[5];
-            for (int i = 0; i < 20; i++) {
-                int b = at + i < text.length() ? text.charAt(at + i) : ' ';
-                fours[i / 4] = fours[i / 4] << 8 | b & 255;
-            }
+            int[] fours = fours(text, at);
             x.feed(fours[0], fours[1], fours[2], fours[3], fours[4]);
         }
         x.end(before + text.length());

@@ -2,7 +2,7 @@
 final class ModelRun {
     private final int seed;
     private final Chance chance;
-    private final MovingStairs x = new MovingStairs();
+    private final Retold x = new Retold();
     private Model m = new Model();
     private Model kept = new Model();
 
@@ -114,10 +114,10 @@ final class ModelRun {
     private void law() {
         String law = ModelTests.law(chance);
         if (law.length() <= 300 && x.about(4) < 4) {
-            Check.law(x, law);
+            x.law(law);
             m.law = law;
         } else {
-            x.by(-1);
+            x.lawless();
             m.law = "";
         }
     }

@@ -112,6 +112,7 @@ final class ModelTests {
         Chance chance = new Chance(9);
         MovingStairs x = new MovingStairs();
         for (int i = 0; i < 400; i++) {
+            x = i % 200 == 0 ? new MovingStairs() : x;
             int length = chance.from(2, 40);
             int w = chance.from(0, 10);
             int mode = chance.below(2);
