@@ -13,6 +13,7 @@ public final class AllTests {
         ModelTests.runAll();
         WrongTests.runAll();
         LanguageTests.runAll();
+        DepthTests.runAll();
         System.out.println(Check.passed + " passed, " + Check.failed + " failed");
         if (Check.failed != 0) {
             System.exit(1);

@@ -20,6 +20,7 @@ final class EdgeQuestionTests {
         routesNow();
         others();
         atMost();
+        upToTheLastCall();
     }
 
     private static void othersOfHalls() {
@@ -251,5 +252,16 @@ final class EdgeQuestionTests {
         for (int what = 0; what < due.length; what++) {
             Edge.is("about " + what, x.about(what), due[what]);
         }
+    }
+
+    private static void upToTheLastCall() {
+        Edge.sentence("An object is used for at most 512 calls after it has been made");
+        MovingStairs x = Edge.halls(9, 9);
+        x.burst(100, 0, 0, 1, 3, false, false);
+        for (int i = 3; i < 510; i++) {
+            x.run(1);
+        }
+        Edge.is("the 511th", x.of(0, 0), 3);
+        Edge.is("the 512th", x.run(1), 508);
     }
 }
