@@ -14,6 +14,7 @@ public final class AllTests {
         WrongTests.runAll();
         LanguageTests.runAll();
         DepthTests.runAll();
+        ReadmeTests.runAll();
         System.out.println(Check.passed + " passed, " + Check.failed + " failed");
         if (Check.failed != 0) {
             System.exit(1);
